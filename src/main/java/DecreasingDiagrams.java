@@ -97,18 +97,12 @@ public final class DecreasingDiagrams {
     // ---- the system
 
     public int addObject() {
-        if (system.objects >= MAX_OBJECTS) {
-            return FULL;
-        }
         return system.appendObject(NONE);
     }
 
     public int addStep(int source, int target, int label) {
         if (!system.hasObject(source) || !system.hasObject(target) || !isLabel(label)) {
             return BAD_ARGUMENT;
-        }
-        if (system.steps >= MAX_STEPS) {
-            return FULL;
         }
         return system.appendStep(source, target, label);
     }
@@ -162,12 +156,12 @@ public final class DecreasingDiagrams {
         if (!system.hasObject(from) || !system.hasObject(to)) {
             return BAD_ARGUMENT;
         }
-        int near = 1 << from;
+        int ends = 1 << from;
         for (int length = 0; length < system.objects; length++) {
-            if (isIn(near, to)) {
+            if (isIn(ends, to)) {
                 return length;
             }
-            near |= system.successors(near, ALL_LABELS);
+            ends = system.successors(ends, ALL_LABELS);
         }
         return NONE;
     }
@@ -688,6 +682,7 @@ public final class DecreasingDiagrams {
             System.arraycopy(other.labels, 0, labels, 0, MAX_STEPS);
         }
 
+        /** The number of the new object, or FULL. */
         private int appendObject(int word) {
             if (objects >= MAX_OBJECTS) {
                 return FULL;
@@ -697,6 +692,7 @@ public final class DecreasingDiagrams {
             return objects - 1;
         }
 
+        /** The number of the new step, or FULL. */
         private int appendStep(int source, int target, int label) {
             if (steps >= MAX_STEPS) {
                 return FULL;
@@ -792,13 +788,13 @@ public final class DecreasingDiagrams {
         private int longestFrom(int set) {
             int ends = set;
             // A path of as many steps as there are objects meets one of them twice.
-            for (int length = 0; length < objects; length++) {
+            for (int length = 0; length <= objects; length++) {
                 ends = successors(ends, ALL_LABELS);
                 if (ends == 0) {
                     return length;
                 }
             }
-            return ends == 0 ? 0 : NONE;
+            return NONE;
         }
     }
 
@@ -1006,7 +1002,7 @@ public final class DecreasingDiagrams {
         private boolean findFirst(LabelledSystem system, int k) {
             int all = begin(system, k);
             for (int labelling = 0; labelling < all; labelling++) {
-                if (isGood()) {
+                if (trialPeaks.firstFailing(trial, natural) == NONE) {
                     System.arraycopy(trial.labels, 0, found, 0, MAX_SEARCH_STEPS);
                     foundSteps = trial.steps;
                     return true;
@@ -1020,7 +1016,7 @@ public final class DecreasingDiagrams {
             int all = begin(system, k);
             int count = 0;
             for (int labelling = 0; labelling < all; labelling++) {
-                if (isGood()) {
+                if (trialPeaks.firstFailing(trial, natural) == NONE) {
                     count++;
                 }
                 advance(k);
@@ -1040,10 +1036,7 @@ public final class DecreasingDiagrams {
             return all;
         }
 
-        private boolean isGood() {
-            return trialPeaks.firstFailing(trial, natural) == NONE;
-        }
-
+        /** Goes on to the next labelling; behind the last one it begins anew. */
         private void advance(int k) {
             for (int step = trial.steps - 1; step >= 0; step--) {
                 if (trial.labels[step] + 1 < k) {
@@ -1133,6 +1126,7 @@ public final class DecreasingDiagrams {
         private final int[] lefts = new int[MAX_RULES];
         private final int[] rights = new int[MAX_RULES];
 
+        /** The number of the new rule, or FULL. */
         private int append(int left, int right) {
             if (count >= MAX_RULES) {
                 return FULL;
