@@ -1,6 +1,10 @@
 import java.lang.reflect.Field;
 import java.lang.reflect.InvocationTargetException;
 import java.lang.reflect.Method;
+import java.util.ArrayList;
+import java.util.HashMap;
+import java.util.List;
+import java.util.Map;
 
 /**
  * Runs calls that are written as the document writes its examples: "addObject() = 0; distance(0, 0) = 0", on a new
@@ -12,17 +16,28 @@ import java.lang.reflect.Method;
 final class Script {
     private static int wrong = 0;
     private static int calls = 0;
+    private static final Map<String, Method> METHODS = methods();
 
     private Script() {
     }
 
     static void run(String name, String script) {
         DecreasingDiagrams object = new DecreasingDiagrams();
-        for (String line : script.split("[;\n]")) {
-            if (!line.isBlank()) {
-                call(name, object, line.strip());
-            }
+        for (String line : linesOf(script)) {
+            String want = line.substring(endOf(line) + 4).strip();
+            String what = name + ": " + line.substring(0, endOf(line) + 1);
+            Object got = answer(object, line);
+            due(what, got, got instanceof String ? want : (Object) number(want));
         }
+    }
+
+    /** A new object behind the calls of a script, whatever they answer. */
+    static DecreasingDiagrams replay(String script) {
+        DecreasingDiagrams object = new DecreasingDiagrams();
+        for (String line : linesOf(script)) {
+            answer(object, line);
+        }
+        return object;
     }
 
     static void due(String what, Object got, Object want) {
@@ -41,19 +56,31 @@ final class Script {
         }
     }
 
-    private static void call(String name, DecreasingDiagrams object, String line) {
+    private static List<String> linesOf(String script) {
+        List<String> lines = new ArrayList<>();
+        for (String line : script.split("[;\n]")) {
+            if (!line.isBlank()) {
+                lines.add(line.strip());
+            }
+        }
+        return lines;
+    }
+
+    private static int endOf(String line) {
+        return line.lastIndexOf(") = ");
+    }
+
+    private static Object answer(DecreasingDiagrams object, String line) {
         int open = line.indexOf('(');
-        int close = line.lastIndexOf(") = ");
         String method = line.substring(0, open);
-        String inside = line.substring(open + 1, close);
-        String want = line.substring(close + 4).strip();
-        String what = name + ": " + line.substring(0, close + 1);
-        if (method.equals("type")) {
-            due(what, type(object, inside), number(want));
-        } else if (method.equals("text")) {
-            due(what, text(object), want);
-        } else {
-            due(what, invoke(object, method, inside), number(want));
+        String inside = line.substring(open + 1, endOf(line));
+        switch (method) {
+            case "type":
+                return type(object, inside);
+            case "text":
+                return text(object);
+            default:
+                return invoke(object, method, inside);
         }
     }
 
@@ -75,7 +102,10 @@ final class Script {
 
     private static long invoke(DecreasingDiagrams object, String name, String inside) {
         String[] words = inside.isBlank() ? new String[0] : inside.split(",");
-        Method method = find(name);
+        Method method = METHODS.get(name);
+        if (method == null || method.getParameterCount() != words.length) {
+            throw new IllegalStateException("no method " + name + "(" + inside + ")");
+        }
         Object[] arguments = new Object[words.length];
         for (int i = 0; i < words.length; i++) {
             long value = number(words[i].strip());
@@ -89,13 +119,12 @@ final class Script {
         }
     }
 
-    private static Method find(String name) {
+    private static Map<String, Method> methods() {
+        Map<String, Method> methods = new HashMap<>();
         for (Method method : DecreasingDiagrams.class.getMethods()) {
-            if (method.getName().equals(name)) {
-                return method;
-            }
+            methods.put(method.getName(), method);
         }
-        throw new IllegalStateException("no method " + name);
+        return methods;
     }
 
     private static long number(String word) {
