@@ -63,7 +63,7 @@ final class Edge {
         }
     }
 
-    /** A call with # in place of an argument that is to lie from low to high: what lies outside is refused and changes nothing. */
+    /** A call with # in place of an argument that is to lie from low to high: what lies outside changes nothing. */
     static void range(String before, String call, int low, int high) {
         leave(before, outside(call, low, high));
     }

@@ -28,7 +28,8 @@ final class LabellingEdges {
 
     private static void findLabelling() {
         Edge.of(35, "Finds the first decreasing labelling and remembers it", "Returns 1 if there is one");
-        Edge.run(TRIANGLE + "findLabelling(2) = 1; foundLabel(0) = 0; foundLabel(1) = 1; foundLabel(2) = 0; foundLabel(3) = 0");
+        Edge.run(TRIANGLE + "findLabelling(2) = 1; foundLabel(0) = 0; foundLabel(1) = 1; foundLabel(2) = 0"
+            + "; foundLabel(3) = 0");
         Edge.run(EIGHT_LOOPS + "findLabelling(1) = 1; foundLabel(0) = 0; foundLabel(7) = 0; foundLabel(8) = NONE");
         Edge.change("LABELLING", Edge.RICH + "removeStep(3) = 6; removeStep(0) = 5", "findLabelling(3) = 1");
 
@@ -40,9 +41,9 @@ final class LabellingEdges {
         Edge.of(35, "k: the number of labels, 1 to 3", "BAD_ARGUMENT");
         Edge.run(EIGHT_LOOPS + "findLabelling(1) = 1; findLabelling(2) = 1; findLabelling(3) = 1");
         Edge.run(THIRD_LABEL + """
-            findLabelling(1) = 0; findLabelling(2) = 1; foundLabel(0) = 0; foundLabel(1) = 1; foundLabel(2) = 1; foundLabel(3) = 0
-            foundLabel(4) = 0; foundLabel(5) = 1; findLabelling(3) = 1; foundLabel(0) = 0; foundLabel(1) = 0; foundLabel(2) = 2
-            foundLabel(3) = 1; foundLabel(4) = 0; foundLabel(5) = 1
+            findLabelling(1) = 0; findLabelling(2) = 1; foundLabel(0) = 0; foundLabel(1) = 1; foundLabel(2) = 1
+            foundLabel(3) = 0; foundLabel(4) = 0; foundLabel(5) = 1; findLabelling(3) = 1; foundLabel(0) = 0
+            foundLabel(1) = 0; foundLabel(2) = 2; foundLabel(3) = 1; foundLabel(4) = 0; foundLabel(5) = 1
             """);
         Edge.range(Edge.RICH, "findLabelling(#) = BAD_ARGUMENT", 1, 3);
         Edge.range("", "findLabelling(#) = BAD_ARGUMENT", 1, 3);
@@ -53,12 +54,16 @@ final class LabellingEdges {
         Edge.leave(Edge.RICH + "removeStep(2) = 6", "findLabelling(3) = 0; foundLabel(6) = 1");
 
         Edge.of(35, "TOO_LARGE if there are more than 8 steps");
-        Edge.run(EIGHT_LOOPS + "findLabelling(2) = 1; addStep(0, 0, 0) = 8; findLabelling(2) = TOO_LARGE; removeStep(4) = 8; findLabelling(2) = 1");
-        Edge.leave(Edge.RICH + "addStep(3, 3, 0) = 7; addStep(3, 3, 0) = 8", "findLabelling(1) = TOO_LARGE; findLabelling(3) = TOO_LARGE");
-        Edge.leave(EIGHT_LOOPS + "findLabelling(1) = 1\n" + Edge.loops(8, 32), "findLabelling(1) = TOO_LARGE; findLabelling(2) = TOO_LARGE");
+        Edge.run(EIGHT_LOOPS + "findLabelling(2) = 1; addStep(0, 0, 0) = 8; findLabelling(2) = TOO_LARGE"
+            + "; removeStep(4) = 8; findLabelling(2) = 1");
+        Edge.leave(Edge.RICH + "addStep(3, 3, 0) = 7; addStep(3, 3, 0) = 8", "findLabelling(1) = TOO_LARGE"
+            + "; findLabelling(3) = TOO_LARGE");
+        Edge.leave(EIGHT_LOOPS + "findLabelling(1) = 1\n" + Edge.loops(8, 32), "findLabelling(1) = TOO_LARGE"
+            + "; findLabelling(2) = TOO_LARGE");
 
         Edge.of(0, "When several errors apply, the one that is listed first is reported");
-        Edge.leave(EIGHT_LOOPS + Edge.loops(8, 9), "findLabelling(0) = BAD_ARGUMENT; findLabelling(4) = BAD_ARGUMENT; findLabelling(-1) = BAD_ARGUMENT");
+        Edge.leave(EIGHT_LOOPS + Edge.loops(8, 9), "findLabelling(0) = BAD_ARGUMENT; findLabelling(4) = BAD_ARGUMENT"
+            + "; findLabelling(-1) = BAD_ARGUMENT");
     }
 
     private static void labellingCount() {
@@ -75,18 +80,22 @@ final class LabellingEdges {
         Edge.range("", "labellingCount(#) = BAD_ARGUMENT", 1, 3);
 
         Edge.of(36, "TOO_LARGE if there are more than 8 steps");
-        Edge.run(EIGHT_LOOPS + "labellingCount(2) = 256; addStep(0, 0, 0) = 8; labellingCount(2) = TOO_LARGE; removeStep(8) = 8; labellingCount(2) = 256");
-        Edge.leave(Edge.RICH + "addStep(3, 3, 0) = 7; addStep(3, 3, 0) = 8", "labellingCount(1) = TOO_LARGE; labellingCount(3) = TOO_LARGE");
+        Edge.run(EIGHT_LOOPS + "labellingCount(2) = 256; addStep(0, 0, 0) = 8; labellingCount(2) = TOO_LARGE"
+            + "; removeStep(8) = 8; labellingCount(2) = 256");
+        Edge.leave(Edge.RICH + "addStep(3, 3, 0) = 7; addStep(3, 3, 0) = 8", "labellingCount(1) = TOO_LARGE"
+            + "; labellingCount(3) = TOO_LARGE");
         Edge.leave(EIGHT_LOOPS + Edge.loops(8, 32), "labellingCount(1) = TOO_LARGE");
 
         Edge.of(0, "When several errors apply, the one that is listed first is reported");
-        Edge.leave(EIGHT_LOOPS + Edge.loops(8, 9), "labellingCount(0) = BAD_ARGUMENT; labellingCount(4) = BAD_ARGUMENT; labellingCount(-1) = BAD_ARGUMENT");
+        Edge.leave(EIGHT_LOOPS + Edge.loops(8, 9), "labellingCount(0) = BAD_ARGUMENT; labellingCount(4) = BAD_ARGUMENT"
+            + "; labellingCount(-1) = BAD_ARGUMENT");
     }
 
     private static void foundLabel() {
         Edge.of(37, "Returns a label of the labelling found last", "Returns the label");
         Edge.leave(Edge.RICH, "foundLabel(0) = 0; foundLabel(5) = 0; foundLabel(6) = 1");
-        Edge.run(THIRD_LABEL + "findLabelling(3) = 1; foundLabel(1) = 0; foundLabel(2) = 2; clearSystem() = 4; foundLabel(2) = 2");
+        Edge.run(THIRD_LABEL + "findLabelling(3) = 1; foundLabel(1) = 0; foundLabel(2) = 2; clearSystem() = 4"
+            + "; foundLabel(2) = 2");
 
         Edge.of(37, "step: the step", "NONE if no labelling was found or that labelling has no such step");
         Edge.range(Edge.RICH, "foundLabel(#) = NONE", 0, 6);
@@ -94,19 +103,21 @@ final class LabellingEdges {
         Edge.leave(EIGHT_LOOPS, "foundLabel(0) = NONE; foundLabel(7) = NONE; foundLabel(-1) = NONE");
         Edge.leave("findLabelling(1) = 1", "foundLabel(0) = NONE; foundLabel(-1) = NONE");
         Edge.run("findLabelling(1) = 1; addObject() = 0; addStep(0, 0, 5) = 0; foundLabel(0) = NONE");
-        Edge.run("addObject() = 0; addStep(0, 0, 5) = 0; findLabelling(1) = 1; removeStep(0) = 0; foundLabel(0) = 0; foundLabel(1) = NONE");
+        Edge.run("addObject() = 0; addStep(0, 0, 5) = 0; findLabelling(1) = 1; removeStep(0) = 0; foundLabel(0) = 0"
+            + "; foundLabel(1) = NONE");
     }
 
     private static void applyLabelling() {
         Edge.of(38, "Gives the steps of the system the labels of the labelling found last and calls useNaturalOrder");
         Edge.change("SYSTEM ORDER", Edge.RICH, "applyLabelling() = 5");
         Edge.run(TRIANGLE + """
-            addGreater(0, 7) = 1; findLabelling(2) = 1; applyLabelling() = 4; label(0) = 0; label(1) = 1; label(2) = 0; label(3) = 0
-            isGreater(0, 7) = 0; isGreater(7, 0) = 1; isGreater(1, 0) = 1; useNaturalOrder() = 28
+            addGreater(0, 7) = 1; findLabelling(2) = 1; applyLabelling() = 4; label(0) = 0; label(1) = 1; label(2) = 0
+            label(3) = 0; isGreater(0, 7) = 0; isGreater(7, 0) = 1; isGreater(1, 0) = 1; useNaturalOrder() = 28
             """);
 
         Edge.of(38, "Returns the number of steps whose label changed");
-        Edge.run(EIGHT_LOOPS + "findLabelling(1) = 1; applyLabelling() = 7; applyLabelling() = 0; setLabel(7, 7) = 0; applyLabelling() = 1");
+        Edge.run(EIGHT_LOOPS + "findLabelling(1) = 1; applyLabelling() = 7; applyLabelling() = 0; setLabel(7, 7) = 0"
+            + "; applyLabelling() = 1");
         Edge.run("findLabelling(1) = 1; applyLabelling() = 0; useNaturalOrder() = 28");
 
         Edge.of(38, "NONE if no labelling was found or it has another number of steps than the system");

@@ -59,7 +59,8 @@ final class OrderEdges {
         Edge.change("ORDER", Edge.RICH, "addGreater(0, 7) = 1; addGreater(3, 2) = CYCLE; addGreater(3, 4) = 1");
         Edge.run("""
             addGreater(7, 6) = 1; addGreater(6, 5) = 1; addGreater(5, 4) = 1; addGreater(4, 3) = 1; addGreater(3, 2) = 1
-            addGreater(2, 1) = 1; addGreater(1, 0) = 1; addGreater(0, 7) = CYCLE; removeGreater(4, 3) = 1; addGreater(0, 7) = 1
+            addGreater(2, 1) = 1; addGreater(1, 0) = 1; addGreater(0, 7) = CYCLE; removeGreater(4, 3) = 1
+            addGreater(0, 7) = 1
             """);
 
         Edge.of(0, "When several errors apply, the one that is listed first is reported");

@@ -117,15 +117,14 @@ enum Part {
     }
 
     private static String snapshot(Supplier<DecreasingDiagrams> fresh) {
-        DecreasingDiagrams[] restored = {fresh.get(), fresh.get(), fresh.get()};
-        StringBuilder text = new StringBuilder();
-        for (DecreasingDiagrams d : restored) {
-            // What is not saved must not show here.
-            d.clearSystem();
-            d.clearRules();
-            d.useNaturalOrder();
-            text.append(d.restoreSnapshot()).append(' ');
+        if (fresh.get().restoreSnapshot() == DecreasingDiagrams.NONE) {
+            return "none";
         }
-        return text + system(restored[0]) + " " + order(restored[1]) + " " + rules(restored[2]);
+        Supplier<DecreasingDiagrams> restored = () -> {
+            DecreasingDiagrams d = fresh.get();
+            d.restoreSnapshot();
+            return d;
+        };
+        return SYSTEM.read(restored) + " " + ORDER.read(restored) + " " + RULES.read(restored);
     }
 }

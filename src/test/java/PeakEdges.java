@@ -38,7 +38,8 @@ final class PeakEdges {
         Edge.range(MOST_PEAKS, call + " = BAD_ARGUMENT", 0, 495);
         Edge.leave("addObject() = 0; addStep(0, 0, 0) = 0", call.replace('#', '0') + " = BAD_ARGUMENT");
         Edge.run(call.replace('#', '0') + " = BAD_ARGUMENT");
-        Edge.run("addObject() = 0\n" + Edge.loops(0, 2) + "removeStep(1) = 1; " + call.replace('#', '0') + " = BAD_ARGUMENT");
+        Edge.run("addObject() = 0\n" + Edge.loops(0, 2) + "removeStep(1) = 1"
+            + "; " + call.replace('#', '0') + " = BAD_ARGUMENT");
     }
 
     private static void peakCount() {
@@ -114,28 +115,40 @@ final class PeakEdges {
         Edge.leave(Edge.RICH, "joinLength(1, 0) = NONE; joinLength(1, 1) = NONE; joinLength(2, 0) = NONE");
 
         Edge.of(0, "When several errors apply, the one that is listed first is reported");
-        Edge.leave(Edge.RICH, "joinLength(1, 2) = BAD_ARGUMENT; joinLength(1, -1) = BAD_ARGUMENT; joinLength(2, 2) = BAD_ARGUMENT");
+        Edge.leave(Edge.RICH, "joinLength(1, 2) = BAD_ARGUMENT; joinLength(1, -1) = BAD_ARGUMENT"
+            + "; joinLength(2, 2) = BAD_ARGUMENT");
     }
 
     private static void joinStep() {
         Edge.of(30, "Returns a step of a joining path", "Returns the step");
         Edge.leave(Edge.RICH, "joinStep(0, 0, 0) = 2; joinStep(0, 1, 0) = 3; joinStep(3, 1, 0) = 4");
+        Edge.run(Edge.objects(0, 3) + "addStep(1, 2, 0) = 0; addStep(0, 1, 0) = 1; addStep(0, 2, 0) = 2"
+            + "; joinLength(0, 0) = 1; joinStep(0, 0, 0) = 0");
+        Edge.run("addObject() = 0\n" + Edge.loops(0, 29) + """
+            addObject() = 1; addObject() = 2; addStep(1, 2, 0) = 29; addStep(1, 1, 0) = 30; addStep(2, 1, 0) = 31
+            peakCount() = 407; valley(406) = 1; joinLength(406, 0) = 1; joinLength(406, 1) = 0; joinStep(406, 0, 0) = 31
+            joinStep(406, 1, 0) = NONE
+            """);
 
         Edge.of(30, "peak: the local peak", "BAD_ARGUMENT if the peak or the side does not exist");
         refusedPeaks("joinStep(#, 0, 0)");
         refusedPeaks("joinStep(#, 1, 0)");
 
-        Edge.of(30, "side: 0 for the left side, 1 for the right side", "BAD_ARGUMENT if the peak or the side does not exist");
+        Edge.of(30, "side: 0 for the left side, 1 for the right side",
+            "BAD_ARGUMENT if the peak or the side does not exist");
         Edge.range(Edge.RICH, "joinStep(0, #, 0) = BAD_ARGUMENT", 0, 1);
         Edge.range(Edge.RICH, "joinStep(4, #, 0) = BAD_ARGUMENT", 0, 1);
 
-        Edge.of(30, "i: the position in the path, from 0", "NONE if the peak is not decreasing or the path has no such position");
-        Edge.run(LONGEST_PATH + "joinStep(0, 0, 0) = 2; joinStep(0, 0, 13) = 15; joinStep(0, 0, 14) = 1; joinStep(0, 0, 15) = NONE");
+        Edge.of(30, "i: the position in the path, from 0",
+            "NONE if the peak is not decreasing or the path has no such position");
+        Edge.run(LONGEST_PATH + "joinStep(0, 0, 0) = 2; joinStep(0, 0, 13) = 15; joinStep(0, 0, 14) = 1"
+            + "; joinStep(0, 0, 15) = NONE");
         Edge.range(LONGEST_PATH, "joinStep(0, 0, #) = NONE", 0, 14);
         Edge.range(Edge.RICH, "joinStep(0, 0, #) = NONE", 0, 0);
         Edge.range(Edge.RICH, "joinStep(0, 1, #) = NONE", 0, 0);
         Edge.leave(Edge.RICH, "joinStep(3, 0, 0) = NONE; joinStep(3, 0, -1) = NONE; joinStep(3, 0, 1) = NONE");
-        Edge.leave(Edge.RICH, "joinStep(1, 0, 0) = NONE; joinStep(1, 1, 0) = NONE; joinStep(2, 0, -1) = NONE; joinStep(2, 1, 9) = NONE");
+        Edge.leave(Edge.RICH, "joinStep(1, 0, 0) = NONE; joinStep(1, 1, 0) = NONE; joinStep(2, 0, -1) = NONE"
+            + "; joinStep(2, 1, 9) = NONE");
 
         Edge.of(0, "When several errors apply, the one that is listed first is reported");
         Edge.leave(Edge.RICH, """
@@ -154,13 +167,15 @@ final class PeakEdges {
         Edge.of(32, "Returns the first local peak that is not decreasing", "Returns the local peak");
         Edge.leave(Edge.RICH, "firstFailure() = 1");
         Edge.run(Edge.objects(0, 3) + "addStep(0, 1, 0) = 0; addStep(0, 2, 0) = 1; firstFailure() = 0");
-        Edge.run(Edge.objects(0, 3) + "addStep(1, 1, 0) = 0; addStep(1, 1, 0) = 1; addStep(0, 1, 0) = 2; addStep(0, 2, 0) = 3; firstFailure() = 1");
+        Edge.run(Edge.objects(0, 3) + "addStep(1, 1, 0) = 0; addStep(1, 1, 0) = 1; addStep(0, 1, 0) = 2"
+            + "; addStep(0, 2, 0) = 3; firstFailure() = 1");
         Edge.run(Edge.objects(0, 3) + Edge.loops(0, 30).replace("addStep(0, 0", "addStep(2, 2") + """
             addStep(0, 1, 0) = 30; addStep(0, 2, 0) = 31; peakCount() = 436; decreasingCount() = 435; firstFailure() = 435
             """);
 
         Edge.of(32, "NONE if the system is locally decreasing");
-        Edge.run("firstFailure() = NONE; addObject() = 0; firstFailure() = NONE; addStep(0, 0, 0) = 0; firstFailure() = NONE");
+        Edge.run("firstFailure() = NONE; addObject() = 0; firstFailure() = NONE; addStep(0, 0, 0) = 0"
+            + "; firstFailure() = NONE");
         Edge.run(MOST_PEAKS + "firstFailure() = NONE");
         Edge.leave("addObject() = 0\n" + Edge.loops(0, 3), "firstFailure() = NONE");
     }
@@ -172,11 +187,20 @@ final class PeakEdges {
         Edge.run("addObject() = 0\n" + Edge.loops(0, 2) + "draw(0) = 11; draw(0) = 11; text() = 0<0-0-1>0:,");
 
         Edge.of(33, "The text of a peak is: ...", "All numbers are decimal");
-        Edge.run(MOST_PEAKS + "draw(0) = 11; text() = 0<0-0-1>0:,; draw(495) = 13; text() = 0<30-0-31>0:,; draw(8) = 11; text() = 0<0-0-9>0:,"
-            + "; draw(9) = 12; text() = 0<0-0-10>0:,");
+        Edge.run(MOST_PEAKS + "draw(0) = 11; text() = 0<0-0-1>0:,; draw(495) = 13; text() = 0<30-0-31>0:,");
         Edge.run(Edge.objects(0, 16) + "addStep(15, 9, 0) = 0; addStep(15, 10, 0) = 1; draw(0) = 12; text() = 9<0-15-1>10!");
+        for (int second = 1; second < 32; second++) {
+            String text = "0<0-0-" + second + ">0:,";
+            Edge.run(MOST_PEAKS + "draw(" + (second - 1) + ") = " + text.length() + "; text() = " + text);
+        }
+        for (int object = 0; object < 16; object++) {
+            String text = object + "<0-" + object + "-1>" + object + ":,";
+            String loop = "addStep(%d, %d, 0) = ".formatted(object, object);
+            Edge.run(Edge.objects(0, 16) + loop + "0; " + loop + "1; draw(0) = " + text.length() + "; text() = " + text);
+        }
 
-        Edge.of(33, "If the peak is decreasing, a colon follows and then the left joining path, a comma and the right joining path; a path...");
+        Edge.of(33, "If the peak is decreasing, a colon follows and then the left joining path, a comma and the right "
+            + "joining path; a path...");
         Edge.run(LONGEST_PATH + "draw(0) = 48; text() = 1<0-0-1>15:.2.3.4.5.6.7.8.9.10.11.12.13.14.15.1,");
         Edge.run(Edge.RICH + "draw(0) = 15; text() = 1<0-0-1>2:.2,.3; draw(3) = 13; text() = 0<4-4-5>4:,.4");
 
@@ -187,15 +211,16 @@ final class PeakEdges {
         refusedPeaks("draw(#)");
 
         Edge.of(33, "Returns the length of the output");
-        Edge.run(Edge.RICH + "draw(0) = 15; output(14) = 51; output(15) = NONE; draw(3) = 13; output(12) = 52; output(13) = NONE");
+        Edge.run(Edge.RICH + "draw(0) = 15; output(14) = 51; output(15) = NONE; draw(3) = 13; output(12) = 52"
+            + "; output(13) = NONE");
     }
 
     private static void output() {
         Edge.of(34, "Returns a character of the output", "Returns the character code");
         Edge.leave(Edge.RICH, """
             output(0) = 49; output(1) = 60; output(2) = 48; output(3) = 45; output(4) = 48; output(5) = 45; output(6) = 49
-            output(7) = 62; output(8) = 50; output(9) = 58; output(10) = 46; output(11) = 50; output(12) = 44; output(13) = 46
-            output(14) = 51; output(15) = NONE
+            output(7) = 62; output(8) = 50; output(9) = 58; output(10) = 46; output(11) = 50; output(12) = 44
+            output(13) = 46; output(14) = 51; output(15) = NONE
             """);
         Edge.run(Edge.RICH + "draw(1) = 10; output(9) = 33");
 

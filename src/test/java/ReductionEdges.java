@@ -60,7 +60,8 @@ final class ReductionEdges {
 
     private static void normalForm() {
         Edge.of(18, "Returns the normal form of an object", "Returns the normal form to which it reduces");
-        Edge.run("addObject() = 0; normalForm(0) = 0; addObject() = 1; addStep(0, 1, 0) = 0; normalForm(0) = 1; normalForm(1) = 1");
+        Edge.run("addObject() = 0; normalForm(0) = 0; addObject() = 1; addStep(0, 1, 0) = 0; normalForm(0) = 1"
+            + "; normalForm(1) = 1");
         Edge.run(Edge.line() + "normalForm(0) = 15; normalForm(15) = 15");
         Edge.leave(Edge.RICH, "normalForm(0) = 3; normalForm(4) = 3; normalForm(3) = 3");
         Edge.run("addObject() = 0; addObject() = 1; addStep(1, 0, 0) = 0; addStep(1, 1, 0) = 1; normalForm(1) = 0");
@@ -69,7 +70,8 @@ final class ReductionEdges {
         refusedObjects("normalForm(#)");
 
         Edge.of(18, "NONE if there is none");
-        Edge.leave("addObject() = 0; addStep(0, 0, 0) = 0", "normalForm(0) = NONE");
+        Edge.leave(Edge.RICH + "addStep(3, 3, 0) = 7", "normalForm(0) = NONE; normalForm(3) = NONE; normalForm(4) = NONE");
+        Edge.run("addObject() = 0; addStep(0, 0, 0) = 0; normalForm(0) = NONE");
         Edge.run(Edge.line() + "addStep(15, 14, 0) = 15; normalForm(0) = NONE; normalForm(15) = NONE");
         Edge.run(Edge.line() + "addStep(15, 15, 0) = 15; normalForm(0) = NONE; normalForm(15) = NONE");
 
@@ -78,15 +80,18 @@ final class ReductionEdges {
             addStep(0, 1, 0) = 0; normalForm(0) = 1; addStep(0, 2, 0) = 1; normalForm(0) = AMBIGUOUS; addStep(0, 3, 0) = 2
             normalForm(0) = AMBIGUOUS; normalForm(2) = 2
             """);
-        Edge.run(Edge.objects(0, 16) + "addStep(0, 14, 0) = 0; addStep(0, 15, 0) = 1; normalForm(0) = AMBIGUOUS; normalForm(15) = 15");
+        Edge.run(Edge.objects(0, 16) + "addStep(0, 14, 0) = 0; addStep(0, 15, 0) = 1; normalForm(0) = AMBIGUOUS"
+            + "; normalForm(15) = 15");
         Edge.leave(Edge.RICH + "removeStep(2) = 6", "normalForm(0) = AMBIGUOUS; normalForm(1) = 1");
         Edge.run(Edge.objects(0, 3) + "addStep(0, 1, 0) = 0; addStep(0, 1, 5) = 1; normalForm(0) = 1");
     }
 
     private static void component() {
         Edge.of(19, "Returns the lowest object that is convertible with an object", "Returns the lowest object");
-        Edge.run(Edge.line() + "component(15) = 0; component(0) = 0; removeStep(14) = 14; component(15) = 15; component(14) = 0");
-        Edge.run("addObject() = 0; component(0) = 0; addObject() = 1; component(1) = 1; addStep(0, 1, 0) = 0; component(1) = 0");
+        Edge.run(Edge.line() + "component(15) = 0; component(0) = 0; removeStep(14) = 14; component(15) = 15"
+            + "; component(14) = 0");
+        Edge.run("addObject() = 0; component(0) = 0; addObject() = 1; component(1) = 1; addStep(0, 1, 0) = 0"
+            + "; component(1) = 0");
         Edge.run("addObject() = 0; addObject() = 1; addStep(1, 0, 0) = 0; component(1) = 0; component(0) = 0");
         Edge.leave(Edge.RICH + "addObject() = 5", "component(4) = 0; component(5) = 5; component(3) = 0");
 
@@ -97,12 +102,18 @@ final class ReductionEdges {
     private static void termination() {
         Edge.of(20, "Returns whether the system terminates", "Returns 1 or 0");
         Edge.run("isTerminating() = 1; addObject() = 0; isTerminating() = 1; addStep(0, 0, 0) = 0; isTerminating() = 0");
-        Edge.run(Edge.line() + "isTerminating() = 1; addStep(15, 0, 0) = 15; isTerminating() = 0; removeStep(7) = 15; isTerminating() = 1");
+        Edge.run(Edge.line() + "isTerminating() = 1; addStep(15, 0, 0) = 15; isTerminating() = 0; removeStep(7) = 15"
+            + "; isTerminating() = 1");
         Edge.run(Edge.line() + "addStep(15, 15, 0) = 15; isTerminating() = 0");
+        Edge.run("addObject() = 0; addObject() = 1; addStep(1, 1, 0) = 0; isTerminating() = 0; setLabel(0, 7) = 0"
+            + "; isTerminating() = 0");
+        Edge.run(Edge.objects(0, 16) + "addStep(15, 15, 0) = 0; isTerminating() = 0; removeStep(0) = 0"
+            + "; isTerminating() = 1");
         Edge.leave(Edge.RICH, "isTerminating() = 0");
 
         Edge.of(21, "Returns the length of the longest path that starts at an object", "Returns the number of steps");
-        Edge.run(Edge.line() + "longestPath(0) = 15; longestPath(15) = 0; longestPath(14) = 1; addStep(0, 15, 0) = 15; longestPath(0) = 15");
+        Edge.run(Edge.line() + "longestPath(0) = 15; longestPath(15) = 0; longestPath(14) = 1; addStep(0, 15, 0) = 15"
+            + "; longestPath(0) = 15");
         Edge.run("addObject() = 0; longestPath(0) = 0");
         Edge.leave(Edge.RICH, "longestPath(1) = 1; longestPath(3) = 0");
 
@@ -114,14 +125,16 @@ final class ReductionEdges {
         Edge.run("addObject() = 0; addStep(0, 0, 0) = 0; longestPath(0) = NONE");
         Edge.run(Edge.line() + "addStep(15, 15, 0) = 15; longestPath(0) = NONE; longestPath(15) = NONE");
         Edge.run(Edge.line() + "addStep(15, 0, 0) = 15; longestPath(0) = NONE; removeStep(15) = 15; longestPath(0) = 15");
-        Edge.run(Edge.objects(0, 2) + "addStep(0, 0, 0) = 0; addStep(0, 1, 0) = 1; longestPath(1) = 0; longestPath(0) = NONE");
+        Edge.run(Edge.objects(0, 2) + "addStep(0, 0, 0) = 0; addStep(0, 1, 0) = 1; longestPath(1) = 0"
+            + "; longestPath(0) = NONE");
     }
 
     private static void confluence() {
         Edge.of(22, "Returns whether the system is confluent", "Returns 1 or 0");
         Edge.run("isConfluent() = 1; addObject() = 0; isConfluent() = 1; addObject() = 1; isConfluent() = 1");
         Edge.run(Edge.objects(0, 3) + "addStep(0, 1, 0) = 0; isConfluent() = 1; addStep(0, 2, 0) = 1; isConfluent() = 0");
-        Edge.run(Edge.objects(0, 16) + "addStep(15, 14, 0) = 0; addStep(15, 13, 0) = 1; isConfluent() = 0; addStep(13, 14, 0) = 2; isConfluent() = 1");
+        Edge.run(Edge.objects(0, 16) + "addStep(15, 14, 0) = 0; addStep(15, 13, 0) = 1; isConfluent() = 0"
+            + "; addStep(13, 14, 0) = 2; isConfluent() = 1");
         Edge.leave(Edge.RICH, "isConfluent() = 1");
 
         Edge.of(23, "Returns the first counterexample to confluence: the lexicographically smallest triple...");
@@ -137,17 +150,21 @@ final class ReductionEdges {
         Edge.run(Edge.objects(0, 3) + "addStep(2, 0, 0) = 0; addStep(2, 1, 0) = 1; counterexample() = 513");
 
         Edge.of(23, "NONE if the system is confluent");
-        Edge.run("counterexample() = NONE; addObject() = 0; counterexample() = NONE; addStep(0, 0, 0) = 0; counterexample() = NONE");
+        Edge.run("counterexample() = NONE; addObject() = 0; counterexample() = NONE; addStep(0, 0, 0) = 0"
+            + "; counterexample() = NONE");
         Edge.run(Edge.line() + "counterexample() = NONE");
         Edge.leave(Edge.RICH, "counterexample() = NONE");
         Edge.leave(Edge.RICH + "removeStep(2) = 6", "counterexample() = 18");
 
         Edge.of(24, "Returns whether the system is locally confluent", "Returns 1 or 0");
         Edge.run("isLocallyConfluent() = 1; addObject() = 0; isLocallyConfluent() = 1");
-        Edge.run(Edge.objects(0, 3) + "addStep(0, 1, 0) = 0; isLocallyConfluent() = 1; addStep(0, 2, 0) = 1; isLocallyConfluent() = 0");
+        Edge.run(Edge.objects(0, 3) + "addStep(0, 1, 0) = 0; isLocallyConfluent() = 1; addStep(0, 2, 0) = 1"
+            + "; isLocallyConfluent() = 0");
         Edge.run("addObject() = 0\n" + Edge.loops(0, 32) + "isLocallyConfluent() = 1");
-        Edge.run(Edge.objects(0, 2) + Edge.loops(0, 31) + "isLocallyConfluent() = 1; addStep(0, 1, 0) = 31; isLocallyConfluent() = 1");
-        Edge.run(Edge.objects(0, 3) + Edge.loops(0, 30) + "addStep(0, 1, 0) = 30; addStep(0, 2, 0) = 31; isLocallyConfluent() = 0");
+        Edge.run(Edge.objects(0, 2) + Edge.loops(0, 31) + "isLocallyConfluent() = 1; addStep(0, 1, 0) = 31"
+            + "; isLocallyConfluent() = 1");
+        Edge.run(Edge.objects(0, 3) + Edge.loops(0, 30) + "addStep(0, 1, 0) = 30; addStep(0, 2, 0) = 31"
+            + "; isLocallyConfluent() = 0");
         Edge.run(Edge.objects(0, 4) + """
             addStep(0, 1, 0) = 0; addStep(1, 0, 0) = 1; addStep(0, 2, 0) = 2; addStep(1, 3, 0) = 3; isLocallyConfluent() = 1
             isConfluent() = 0

@@ -16,12 +16,15 @@ import java.util.Map;
 final class Script {
     private static int wrong = 0;
     private static int calls = 0;
+    /** The calls of the object that is in use; nothing is promised of an object after its 512th. */
+    private static int used = 0;
     private static final Map<String, Method> METHODS = methods();
 
     private Script() {
     }
 
     static void run(String name, String script) {
+        used = 0;
         DecreasingDiagrams object = new DecreasingDiagrams();
         for (String line : linesOf(script)) {
             String want = line.substring(endOf(line) + 4).strip();
@@ -29,6 +32,7 @@ final class Script {
             Object got = answer(object, line);
             due(what, got, got instanceof String ? want : (Object) number(want));
         }
+        due(name + ": a run of " + used + " calls is too long", used > 512, false);
     }
 
     /** A new object behind the calls of a script, whatever they answer. */
@@ -86,6 +90,7 @@ final class Script {
 
     private static long type(DecreasingDiagrams object, String signs) {
         long answer = 0;
+        used += signs.length();
         for (int i = 0; i < signs.length(); i++) {
             answer = object.feed(signs.charAt(i));
         }
@@ -94,13 +99,17 @@ final class Script {
 
     private static String text(DecreasingDiagrams object) {
         StringBuilder text = new StringBuilder();
-        for (int i = 0; object.output(i) != DecreasingDiagrams.NONE; i++) {
-            text.append((char) object.output(i));
+        int sign = object.output(0);
+        while (sign != DecreasingDiagrams.NONE) {
+            text.append((char) sign);
+            sign = object.output(text.length());
         }
+        used += text.length() + 1;
         return text.toString();
     }
 
     private static long invoke(DecreasingDiagrams object, String name, String inside) {
+        used++;
         String[] words = inside.isBlank() ? new String[0] : inside.split(",");
         Method method = METHODS.get(name);
         if (method == null || method.getParameterCount() != words.length) {

@@ -59,9 +59,11 @@ final class SystemEdges {
         Edge.run("addObject() = 0; addStep(0, 0, 0) = 0; addStep(0, 0, 0) = 1; removeStep(0) = 1; addStep(0, 0, 0) = 1");
 
         Edge.of(7, "FULL if there are 32 steps");
-        Edge.run("addObject() = 0\n" + Edge.loops(0, 31) + "addStep(0, 0, 1) = 31; addStep(0, 0, 1) = FULL; stepCount() = 32");
+        Edge.run("addObject() = 0\n" + Edge.loops(0, 31) + "addStep(0, 0, 1) = 31; addStep(0, 0, 1) = FULL"
+            + "; stepCount() = 32");
         Edge.leave(FULL_OF_STEPS, "addStep(0, 0, 0) = FULL; addStep(4, 4, 7) = FULL");
-        Edge.run("addObject() = 0\n" + Edge.loops(0, 32) + "addStep(0, 0, 1) = FULL; removeStep(31) = 31; addStep(0, 0, 1) = 31");
+        Edge.run("addObject() = 0\n" + Edge.loops(0, 32) + "addStep(0, 0, 1) = FULL; removeStep(31) = 31"
+            + "; addStep(0, 0, 1) = 31");
         Edge.run("type(a>b) = 3; addRule() = 0; type(aaaa) = 4; explore() = 16; stepCount() = 32; addStep(0, 1, 0) = FULL");
 
         Edge.of(0, "When several errors apply, the one that is listed first is reported");
@@ -73,15 +75,18 @@ final class SystemEdges {
 
     private static void removeStep() {
         Edge.of(8, "Removes a step");
-        Edge.change("SYSTEM", Edge.RICH, "removeStep(3) = 6");
+        Edge.change("SYSTEM", Edge.RICH, "removeStep(3) = 6; objectCount() = 5; wordLength(3) = 1; wordLength(4) = NONE");
         Edge.run("addObject() = 0; addStep(0, 0, 3) = 0; removeStep(0) = 0; source(0) = BAD_ARGUMENT; reachable(0) = 1");
 
         Edge.of(8, "The numbers of all later steps decrease by 1");
         Edge.run("addObject() = 0\n" + Edge.loops(0, 32) + """
-            removeStep(5) = 31; label(4) = 4; label(5) = 6; label(6) = 7; label(29) = 6; label(30) = 7; label(31) = BAD_ARGUMENT
+            removeStep(5) = 31; label(4) = 4; label(5) = 6; label(6) = 7; label(29) = 6; label(30) = 7
+            label(31) = BAD_ARGUMENT
             """);
-        Edge.run("addObject() = 0\n" + Edge.loops(0, 3) + "removeStep(0) = 2; label(0) = 1; label(1) = 2; label(2) = BAD_ARGUMENT");
-        Edge.run("addObject() = 0\n" + Edge.loops(0, 3) + "removeStep(2) = 2; label(0) = 0; label(1) = 1; label(2) = BAD_ARGUMENT");
+        Edge.run("addObject() = 0\n" + Edge.loops(0, 3) + "removeStep(0) = 2; label(0) = 1; label(1) = 2"
+            + "; label(2) = BAD_ARGUMENT");
+        Edge.run("addObject() = 0\n" + Edge.loops(0, 3) + "removeStep(2) = 2; label(0) = 0; label(1) = 1"
+            + "; label(2) = BAD_ARGUMENT");
         Edge.run(Edge.objects(0, 3) + """
             addStep(0, 1, 4) = 0; addStep(1, 2, 5) = 1; addStep(2, 0, 6) = 2; removeStep(1) = 2; source(0) = 0; target(0) = 1
             label(0) = 4; source(1) = 2; target(1) = 0; label(1) = 6
@@ -103,13 +108,15 @@ final class SystemEdges {
         Edge.run("addObject() = 0\n" + Edge.loops(0, 3) + "setLabel(1, 5) = 1; label(0) = 0; label(1) = 5; label(2) = 2");
 
         Edge.of(9, "step: the step", "BAD_ARGUMENT");
-        Edge.run("addObject() = 0\n" + Edge.loops(0, 32) + "setLabel(0, 4) = 0; label(0) = 4; setLabel(31, 5) = 7; label(31) = 5");
+        Edge.run("addObject() = 0\n" + Edge.loops(0, 32) + "setLabel(0, 4) = 0; label(0) = 4; setLabel(31, 5) = 7"
+            + "; label(31) = 5");
         Edge.range(Edge.RICH, "setLabel(#, 6) = BAD_ARGUMENT", 0, 6);
         Edge.range(FULL_OF_STEPS, "setLabel(#, 6) = BAD_ARGUMENT", 0, 31);
         Edge.leave("addObject() = 0", "setLabel(0, 0) = BAD_ARGUMENT");
 
         Edge.of(9, "label: the new label, 0 to 7", "BAD_ARGUMENT");
-        Edge.run("addObject() = 0; addStep(0, 0, 3) = 0; setLabel(0, 0) = 3; label(0) = 0; setLabel(0, 7) = 0; label(0) = 7");
+        Edge.run("addObject() = 0; addStep(0, 0, 3) = 0; setLabel(0, 0) = 3; label(0) = 0; setLabel(0, 7) = 0"
+            + "; label(0) = 7");
         Edge.range(Edge.RICH, "setLabel(0, #) = BAD_ARGUMENT", 0, 7);
 
         Edge.of(9, "Returns the previous label");
@@ -137,6 +144,8 @@ final class SystemEdges {
         Edge.run("objectCount() = 0\n" + Edge.objects(0, 16) + "objectCount() = 16; addObject() = FULL; objectCount() = 16");
         Edge.run("objectCount() = 0; addObject() = 0; objectCount() = 1; clearSystem() = 1; objectCount() = 0");
         Edge.leave(Edge.RICH, "objectCount() = 5");
+        Edge.run(Edge.RICH + "objectCount() = 5; label(0) = 0; label(6) = 7; source(6) = 0; target(6) = 4"
+            + "; wordLength(0) = 2; stepCount() = 7");
 
         Edge.of(12, "Returns the number of steps", "Returns the number of steps, 0 to 32");
         Edge.run("stepCount() = 0; addObject() = 0\n" + Edge.loops(0, 32)
