@@ -15,6 +15,7 @@ final class DescriptionEdges {
         stringRewriting();
         exploration();
         details();
+        constants();
         errors();
     }
 
@@ -368,17 +369,51 @@ final class DescriptionEdges {
         Edge.change("SYSTEM INPUT", Edge.RICH, "explore() = 4; failure(0) = 6; failure(1) = 0; failure(2) = 0");
     }
 
-    private static void errors() {
-        Edge.of(0, "Methods report errors by the constants of this class");
-        Edge.run("""
-            isGreater(8, 0) = -1; distance(0, 0) = -1; foundLabel(0) = -2; addGreater(1, 1) = -4
-            setElement(0, 0, 0) = -11; newArray(0, 0) = 1; setElement(0, 0, 0) = -13; newArray(0, -1) = -14
-            explore() = -100; addRule() = -100; feed(97) = 1; addRule() = -101
-            """);
-        Edge.run(Edge.objects(0, 16) + Edge.loops(0, 9) + "addObject() = -3; findLabelling(1) = -5; addStep(1, 2, 0) = 9"
-            + "; addStep(1, 3, 0) = 10; normalForm(1) = -7");
+    private static void constants() {
+        Edge.of(0, "Methods report errors by the constants of this class",
+            "BAD_ARGUMENT = -1: An argument is out of range, or an object, step, peak, rule or array does not exist");
+        Edge.run("isGreater(8, 0) = -1; feed(0) = -1; distance(0, 0) = -1; source(0) = -1; valley(0) = -1"
+            + "; newArray(3, 0) = -1; newArray(0, 17) = -1; findLabelling(4) = -1");
+
+        Edge.of(0, "NONE = -2: There is no such element or no result");
+        Edge.run("foundLabel(0) = -2; output(0) = -2; failure(0) = -2; counterexample() = -2; firstFailure() = -2"
+            + "; restoreSnapshot() = -2; applyLabelling() = -2");
+
+        Edge.of(0, "FULL = -3: There is no room");
+        Edge.run(Edge.objects(0, 16) + Edge.loops(0, 32) + "addObject() = -3; addStep(0, 0, 0) = -3");
+        Edge.run("type(abcabcabcabcabcabcab) = 20; feed(97) = -3");
+        StringBuilder rules = new StringBuilder();
+        for (int rule = 0; rule < 6; rule++) {
+            rules.append("type(a>) = 2; addRule() = ").append(rule).append('\n');
+        }
+        Edge.run(rules + "addRule() = -3");
+
+        Edge.of(0, "CYCLE = -4: A label would become greater than itself");
+        Edge.run("addGreater(1, 1) = -4; addGreater(1, 0) = 1; addGreater(0, 1) = -4");
+
+        Edge.of(0, "TOO_LARGE = -5: The system has too many steps for a search of labellings");
+        Edge.run("addObject() = 0\n" + Edge.loops(0, 9) + "findLabelling(1) = -5; labellingCount(1) = -5");
+
+        Edge.of(0, "EXPLORATION_FAILED = -6: An exploration exceeds a limit");
         Edge.run("type(a>aa) = 4; addRule() = 0; type(a) = 1; explore() = -6");
 
+        Edge.of(0, "AMBIGUOUS = -7: An object has several normal forms");
+        Edge.run(Edge.objects(0, 3) + "addStep(0, 1, 0) = 0; addStep(0, 2, 0) = 1; normalForm(0) = -7");
+
+        Edge.of(0, "NULL_ARRAY = -11: The array is missing");
+        Edge.run("setElement(0, 0, 0) = -11; compareReachable(0) = -11");
+
+        Edge.of(0, "INDEX_OUT_OF_RANGE = -13: An array index is out of range");
+        Edge.run("newArray(0, 1) = 1; setElement(0, 1, 0) = -13; setElement(0, -1, 0) = -13");
+
+        Edge.of(0, "NEGATIVE_SIZE = -14: An array size is negative");
+        Edge.run("newArray(0, -1) = -14");
+
+        Edge.of(0, "SYNTAX_ERROR = -100: A syntax error at position k is reported as SYNTAX_ERROR - k");
+        Edge.run("explore() = -100; addRule() = -100; feed(97) = 1; addRule() = -101; type(abcabcab>) = 9; explore() = -108");
+    }
+
+    private static void errors() {
         Edge.of(0, "A call that reports an error leaves the state unchanged, unless its description says otherwise");
         Edge.leave(Edge.RICH, """
             addGreater(8, 0) = BAD_ARGUMENT; addGreater(1, 1) = CYCLE; removeGreater(-1, 0) = BAD_ARGUMENT

@@ -64,10 +64,10 @@ final class Document {
         return heading.equals("What it is") || heading.equals("Description") ? 0 : NO_SECTION;
     }
 
-    /** Signatures, headings of groups, examples (ExamplesTest has them), and the list of constants (FaceTest has it). */
+    /** Signatures, headings of groups, and the examples, which ExamplesTest has. */
     private static boolean isNoSentence(String paragraph) {
         return paragraph.isBlank() || paragraph.startsWith("`") || paragraph.startsWith("----") || paragraph.startsWith(" ")
-            || paragraph.startsWith("Examples, ") || paragraph.startsWith("The con") || paragraph.matches("- `[A-Z_]+ = .*");
+            || paragraph.startsWith("Examples, ") || paragraph.startsWith("The con");
     }
 
     private void add(String text) {
