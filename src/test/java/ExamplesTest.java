@@ -1,6 +1,8 @@
-/** The examples of the document's Description. */
+import java.io.IOException;
+
+/** The examples of the document's Description: as they stood when this was written, and as the document has them now. */
 public final class ExamplesTest {
-    public static void main(String[] args) {
+    public static void main(String[] args) throws IOException {
         Script.run("a peak, before and after pairs of the label order", """
             addObject() = 0; addObject() = 1; addObject() = 2; addObject() = 3
             addStep(0, 1, 1) = 0; addStep(0, 2, 2) = 1; addStep(1, 3, 0) = 2; addStep(2, 3, 0) = 3; isDecreasing(0) = 0
@@ -21,6 +23,10 @@ public final class ExamplesTest {
             addObject() = 0; addStep(0, 0, 0) = 0; isTerminating() = 0; longestPath(0) = -2
             normalForm(0) = -2
             """);
+        for (Document.Example example : Document.examples()) {
+            Script.run("the document: " + example.name(), example.calls());
+        }
+        Script.due("the document has five examples or more", Document.examples().size() >= 5, true);
         Script.finish();
     }
 }

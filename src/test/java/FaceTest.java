@@ -1,3 +1,4 @@
+import java.io.IOException;
 import java.lang.reflect.Constructor;
 import java.lang.reflect.Field;
 import java.lang.reflect.Method;
@@ -27,8 +28,9 @@ public final class FaceTest {
         "NULL_ARRAY=-11", "INDEX_OUT_OF_RANGE=-13", "NEGATIVE_SIZE=-14", "SYNTAX_ERROR=-100"
     };
 
-    public static void main(String[] args) throws ReflectiveOperationException {
+    public static void main(String[] args) throws ReflectiveOperationException, IOException {
         Class<?> type = DecreasingDiagrams.class;
+        checkDocument();
         Script.due("modifiers of the class", Modifier.toString(type.getModifiers()), "public final");
         Script.due("methods", methodsOf(type), new TreeSet<>(List.of(METHODS)));
         Script.due("constants", constantsOf(type), new TreeSet<>(List.of(CONSTANTS)));
@@ -46,6 +48,19 @@ public final class FaceTest {
         Script.due("at most twelve classes", type.getDeclaredClasses().length + 1 <= 12, true);
         checkFields(type);
         Script.finish();
+    }
+
+    /** The rows above are those of the document's face. */
+    private static void checkDocument() throws IOException {
+        TreeSet<String> face = new TreeSet<>();
+        for (String member : Document.face()) {
+            face.add(member.replaceAll("^public |static final int |;$", "").replace(" = ", "=")
+                .replaceAll("(int|long) \\w+(?=[,)])", "$1").replace(", ", ","));
+        }
+        TreeSet<String> known = new TreeSet<>(List.of(METHODS));
+        known.addAll(List.of(CONSTANTS));
+        known.add("DecreasingDiagrams()");
+        Script.due("the document's face", face, known);
     }
 
     private static TreeSet<String> methodsOf(Class<?> type) {
